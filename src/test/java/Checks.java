@@ -1,0 +1,83 @@
+/** Counts the answers that are not as due, and puts texts into an exchange. */
+final class Checks {
+    private int wrong = 0;
+
+    interface Asked {
+        void run();
+    }
+
+    void due(String what, long got, long want) {
+        if (got != want) {
+            wrong++;
+            System.out.println(what + " answered " + got + ", due is " + want);
+        }
+    }
+
+    void dueFloat(String what, float got, float want) {
+        if (got != want) {
+            wrong++;
+            System.out.println(what + " answered " + got + ", due is " + want);
+        }
+    }
+
+    void dueThrow(String what, Class<?> want, Asked asked) {
+        String got = "nothing";
+        try {
+            asked.run();
+        } catch (RuntimeException thrown) {
+            if (thrown.getClass() == want) {
+                return;
+            }
+            got = thrown.toString();
+        }
+        wrong++;
+        System.out.println(what + " threw " + got + ", due is " + want.getSimpleName());
+    }
+
+    void end() {
+        System.out.println(wrong == 0 ? "all answers are as due" : wrong + " answers are not as due");
+        if (wrong != 0) {
+            System.exit(1);
+        }
+    }
+
+    /** Appends a text, filled up with spaces to a multiple of 20 bytes; the last answer of append. */
+    static int put(ExchangeControl x, String text) {
+        int filled = -1;
+        for (int start = 0; start < text.length(); start += 20) {
+            int[] words = new int[5];
+            for (int k = 0; k < 20; k++) {
+                int sign = start + k < text.length() ? text.charAt(start + k) : ' ';
+                words[k / 4] = words[k / 4] << 8 | sign & 255;
+            }
+            filled = x.append(words[0], words[1], words[2], words[3], words[4]);
+        }
+        return filled;
+    }
+
+    static int loaded(ExchangeControl x, String text) {
+        put(x, text);
+        return x.load(text.length());
+    }
+
+    static ExchangeControl fresh(String text) {
+        ExchangeControl x = new ExchangeControl();
+        if (loaded(x, text) < 0) {
+            throw new IllegalStateException("not a setup text: " + text + " at " + x.errorOffset());
+        }
+        return x;
+    }
+
+    /** A new exchange with such a setup that has passed some ticks. */
+    static ExchangeControl at(int ticks, String text) {
+        ExchangeControl x = fresh(text);
+        x.pass(ticks);
+        return x;
+    }
+
+    /** Dials at once with an empty buffer. */
+    static int dialled(ExchangeControl x, int line, String digits, int talk) {
+        put(x, digits);
+        return x.dial(line, digits.length(), talk);
+    }
+}
