@@ -1269,7 +1269,7 @@ public final class ExchangeControl {
         }
     }
 
-    /** Reads a setup text, token by token; as all checks of a token come before the next one, the first found is due. */
+    /** Reads a setup text; as all checks of a token come before the next token, the first error found is due. */
     private static final class SetupReader {
         private static final int END = 0;
         private static final int DIGITS = 1;
@@ -1573,7 +1573,7 @@ public final class ExchangeControl {
 
         private void addToToken(int sign) {
             if (kind == DIGITS) {
-                number = Math.min(number * 10 + (sign - '0'), TOO_GREAT);
+                number = number < TOO_GREAT ? number * 10 + (sign - '0') : TOO_GREAT;
                 row = size < MOST_DIGITS ? row * 10 + (sign - '0') : NO_ROW;
             } else if (kind == WORD) {
                 name = size < MOST_LETTERS ? name * 27 + (sign - 'a' + 1) : 0;

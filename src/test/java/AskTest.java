@@ -120,6 +120,7 @@ final class AskTest {
         checks.due("it has waited", x.register(0, 2), 1);
         x.pass(3);
         checks.due("it has waited longer", x.register(0, 2), 4);
+        checks.due("there are no more digits", x.register(0, 1), 1);
         x.pass(1);
         checks.due("given up: free", x.register(0, 0), -1);
         checks.due("given up: no digits", x.register(0, 1), 0);
@@ -187,6 +188,7 @@ final class AskTest {
     private static void look() {
         ExchangeControl x = Checks.fresh("exchange 1 1;line 12;line 90;line 0;group a 1 0;group b 2 1;group c 2 0;"
             + "route 9 2 a b;route 91 3 b c;route 9100 5 c;call 12 98 9 1;");
+        looked(Checks.fresh("exchange 1 1;group a 1 0;route 0 2 a;"), "0", -1, 0, 0, -1);
         looked(x, "12", 0, -1, 1, -1);
         looked(x, "1", -1, -1, 0, -1);
         looked(x, "012", -1, -1, 0, -1);

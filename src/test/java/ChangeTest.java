@@ -12,6 +12,7 @@ final class ChangeTest {
         pass();
         undo();
         undoAll();
+        undoCounts();
         checks.end();
     }
 
@@ -197,5 +198,35 @@ final class ChangeTest {
         checks.due("as new", x.checksum(), empty);
         checks.dueThrow("no lines", IndexOutOfBoundsException.class, () -> x.line(0, 0));
         checks.due("none", x.undo(), -1);
+    }
+
+    private static void undoCounts() {
+        ExchangeControl x = Checks.fresh("exchange 3 3;line 1;line 2;line 3;line 4;work 1;group a 1 0;group b 2 1;"
+            + "route 9 1 a b;call 1 9 50 1;call 2 9 50 1;call 3 9 50 1;call 4 9 50 1;call 1 9 50 90;");
+        long before = x.checksum();
+        x.pass(6);
+        checks.due("another choice", x.group(1, 5), 1);
+        checks.due("overflows", x.group(0, 3) * 10 + x.group(1, 3), 32);
+        checks.due("one waited", x.state(24), 1);
+        long passed = x.checksum();
+        x.undo();
+        checks.due("no other choice", x.group(1, 5), 0);
+        checks.due("no overflows", x.state(23), 0);
+        checks.due("none waited", x.state(24), 0);
+        checks.due("nothing has begun", x.group(0, 4) + x.group(0, 6), 0);
+        checks.due("none has come", x.line(0, 3), 0);
+        checks.due("all as before", x.checksum(), before);
+        x.pass(6);
+        checks.due("and again", x.checksum(), passed);
+        ExchangeControl y = Checks.fresh("exchange 1 1;line 1;line 2;line 3;line 4;call 4 5 1 1;call 3 5 1 1;");
+        y.pass(1);
+        Checks.dialled(y, 1, "5", 1);
+        y.pass(1);
+        y.undo();
+        Checks.dialled(y, 0, "5", 1);
+        y.pass(1);
+        checks.due("the order of waiting is as before", y.foremost(false), 1);
+        y.hang(1);
+        checks.due("the two that came together, by index", y.foremost(false), 2);
     }
 }

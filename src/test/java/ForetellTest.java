@@ -40,6 +40,8 @@ final class ForetellTest {
             checks.due("foretold(" + ticks + ")", x.foretold(ticks, states[ticks - 1]), 1);
         }
         checks.due("one comes later", x.foretold(600, 0), 1);
+        ExchangeControl talks = Checks.at(5, "exchange 1 1;line 11;line 12;call 11 12 3 1;");
+        checks.due("the only call talks", talks.foretold(3, 6), 1);
         checks.due("nothing has changed", x.checksum(), before);
         checks.dueThrow("foretold(0, 0)", IllegalArgumentException.class, () -> x.foretold(0, 0));
         checks.dueThrow("foretold(601, 0)", IllegalArgumentException.class, () -> x.foretold(601, 0));

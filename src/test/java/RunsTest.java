@@ -1,5 +1,7 @@
 import java.util.ArrayDeque;
+import java.util.ArrayList;
 import java.util.Deque;
+import java.util.List;
 import java.util.NoSuchElementException;
 import java.util.Random;
 
@@ -63,27 +65,51 @@ final class RunsTest {
         return digits.toString();
     }
 
+    /** Different rows of digits, but now and then a row twice, so that there are NAME_ERRORs too. */
+    private List<String> rows(int count, int most) {
+        List<String> rows = new ArrayList<>();
+        for (int tries = 0; tries < 60 && rows.size() < count; tries++) {
+            String row = digits(most);
+            if (!rows.contains(row) || below(100) == 0) {
+                rows.add(row);
+            }
+        }
+        return rows;
+    }
+
+    /** What a call dials: the number of a line, what a route takes, or any digits. */
+    private String aim(List<String> lines, List<String> prefixes) {
+        int kind = below(6);
+        if (kind < 2 && !lines.isEmpty()) {
+            return lines.get(below(lines.size())) + (below(4) == 0 ? "7" : "");
+        }
+        if (kind < 5 && !prefixes.isEmpty()) {
+            String prefix = prefixes.get(below(prefixes.size()));
+            return prefix + "7777".substring(0, Math.min(below(5), 6 - prefix.length()));
+        }
+        return digits(6);
+    }
+
     private String setup() {
         StringBuilder text = new StringBuilder();
         text.append("exchange ").append(1 + below(4)).append(' ').append(1 + below(3)).append(';');
-        String[] lines = new String[1 + below(below(4) == 0 ? 13 : 6)];
-        for (int k = 0; k < lines.length; k++) {
-            lines[k] = digits(4);
-            text.append("line ").append(lines[k]).append(';');
+        List<String> lines = rows(1 + below(below(8) == 0 ? 13 : 10), 4);
+        for (String line : lines) {
+            text.append("line ").append(line).append(';');
         }
-        int groups = 1 + below(below(4) == 0 ? 6 : 3);
+        int groups = 1 + below(below(20) == 0 ? 6 : 4);
         for (int k = 0; k < groups; k++) {
-            int trunks = 1 + below(3);
+            int trunks = 1 + below(below(2) == 0 ? 1 : 3);
             text.append("group ").append((char) ('a' + k)).append(' ').append(trunks).append(' ')
                 .append(below(trunks)).append(';');
         }
-        int routes = below(5);
-        for (int k = 0; k < routes; k++) {
-            String prefix = digits(3);
-            text.append("route ").append(prefix).append(' ').append(prefix.length() + below(3)).append(' ')
-                .append((char) ('a' + below(groups)));
-            for (int more = below(3); more > 0; more--) {
-                text.append(' ').append((char) ('a' + below(groups)));
+        List<String> prefixes = rows(below(below(20) == 0 ? 10 : 6), 3);
+        for (String prefix : prefixes) {
+            text.append("route ").append(prefix).append(' ').append(prefix.length() + below(3));
+            int first = below(groups);
+            int choices = below(100) == 0 ? 4 : 1 + below(Math.min(groups, 3));
+            for (int k = 0; k < choices; k++) {
+                text.append(' ').append((char) ('a' + (first + k) % groups));
             }
             text.append(';');
         }
@@ -92,12 +118,11 @@ final class RunsTest {
                 text.append(rule).append(' ').append(1 + below(4)).append(';');
             }
         }
-        int calls = below(below(4) == 0 ? 41 : 16);
+        int calls = below(below(4) == 0 ? 42 : 20);
         for (int k = 0; k < calls; k++) {
-            text.append("call ").append(lines[below(lines.length)]).append(' ')
-                .append(below(2) == 0 ? lines[below(lines.length)] : digits(5)).append(' ')
-                .append(1 + below(below(3) == 0 ? 30 : 6)).append(' ').append(1 + below(below(4) == 0 ? 99 : 20))
-                .append(';');
+            text.append("call ").append(lines.get(below(lines.size()))).append(' ').append(aim(lines, prefixes))
+                .append(' ').append(1 + below(below(3) == 0 ? 40 : 10)).append(' ')
+                .append(1 + below(below(4) == 0 ? 99 : 20)).append(';');
         }
         return text.length() > 700 ? text.substring(0, text.lastIndexOf(";", 699) + 1) : text.toString();
     }
@@ -209,7 +234,7 @@ final class RunsTest {
 
     private void dial() {
         if (below(3) > 0) {
-            put(below(3) == 0 && !model.lines.isEmpty() ? model.lines.get(below(model.lines.size())) : digits(6));
+            put(aim(model.lines, model.prefixes));
         }
         int line = below(model.lines.size() + 1);
         int length = below(8);
@@ -277,7 +302,7 @@ final class RunsTest {
     }
 
     private void look() {
-        put(below(3) == 0 && !model.lines.isEmpty() ? model.lines.get(below(model.lines.size())) : digits(6));
+        put(aim(model.lines, model.prefixes));
         int length = 1 + below(6);
         if (length > buffer.length() || !buffer.substring(0, length).matches("[0-9]+")) {
             checks.dueThrow("look", IllegalArgumentException.class, () -> x.look(length, 0));

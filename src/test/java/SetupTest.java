@@ -66,6 +66,18 @@ final class SetupTest {
         x.pass(3);
         checks.due("load again", Checks.loaded(x, "exchange 2 1;line 1;"), 0);
         checks.due("all is replaced", x.checksum(), Checks.fresh("exchange 2 1;line 1;").checksum());
+        checks.due("rules are told anew", Checks.loaded(x, "exchange 1 1;guard 1;timeout 1;work 1;"), 0);
+        checks.due("and once more", Checks.loaded(x, "exchange 1 1;guard 2;timeout 2;work 2;"), 0);
+        Checks.loaded(x, text);
+        checks.due("older groups are not known", Checks.loaded(x, "exchange 1 1;route 1 1 out;"), NAME);
+        Checks.loaded(x, text);
+        checks.due("older lines neither", Checks.loaded(x, "exchange 1 1;call 012 1 1 1;"), NAME);
+        Checks.loaded(x, text);
+        checks.due("older prefixes don't count",
+            Checks.loaded(x, "exchange 1 1;group a 1 0;route 0 1 a;route 00001 5 a;"), 0);
+        Checks.loaded(x, "exchange 1 1;group a 1 0;");
+        Checks.put(x, "0");
+        checks.due("no route is left", x.look(1, 1), -1);
     }
 
     private static void loadAndBuffer() {
@@ -105,6 +117,9 @@ final class SetupTest {
         wrong(SYNTAX, "|exchang 1 1;");
         wrong(SYNTAX, "|exchanges 1 1;");
         wrong(SYNTAX, "|Exchange 1 1;");
+        wrong(SYNTAX, "|axchange 1 1;");
+        wrong(SYNTAX, "exchange 1 1;|mine 1;");
+        wrong(SYNTAX, "exchange 1 1;|ball 1 1 1 1;");
         wrong(SYNTAX, "|line 1;");
         wrong(SYNTAX, "exchange|");
         wrong(SYNTAX, "exchange |;");
@@ -183,6 +198,10 @@ final class SetupTest {
         wrong(NAME, "exchange 1 1;group a 1 0;group |a 1 0;");
         wrong(NAME, "exchange 1 1;group abcdefgh 1 0;group abcdefgi 1 0;group |abcdefgh 9 0;");
         wrong(NAME, "exchange 1 1;group a 1 0;route 1 1 |b;");
+        wrong(NAME, "exchange 1 1;group a 1 0;group b 1 0;route 1 1 |ab;");
+        wrong(NAME, "exchange 1 1;group ab 1 0;route 1 1 |ba;");
+        wrong(NAME, "exchange 1 1;group az 1 0;route 1 1 |bz;");
+        wrong(NAME, "exchange 1 1;group aa 1 0;route 1 1 |a;");
         wrong(NAME, "exchange 1 1;group a 1 0;route 1 1 a |a;");
         wrong(NAME, "exchange 1 1;group a 1 0;route 1 1 |b;group b 1 0;");
         wrong(NAME, "exchange 1 1;group a 1 0;route 1 1 a;route |1 9 a;");
