@@ -507,7 +507,6 @@ public final class ExchangeControl {
 
         Call(int index) {
             this.index = index;
-            state = UNTOLD;
         }
 
         void tell(int line, int row, int talk, int comes) {
@@ -646,8 +645,6 @@ public final class ExchangeControl {
 
         Register(int index) {
             this.index = index;
-            call = NONE;
-            row = Rows.EMPTY;
         }
 
         void serve(int newCall) {
@@ -670,7 +667,6 @@ public final class ExchangeControl {
 
         Marker(int index) {
             this.index = index;
-            call = NONE;
         }
 
         void serve(int newCall, int ticks) {

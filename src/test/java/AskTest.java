@@ -45,6 +45,8 @@ final class AskTest {
         checks.due("talks", x.state(12), 1);
         x.hang(1);
         checks.due("hung up", x.state(18), 1);
+        x.hang(4);
+        checks.due("two hung up", x.state(18), 2);
         checks.due("guard", x.state(19), 6);
         checks.due("timeout", x.state(20), 7);
         checks.due("work", x.state(21), 8);
@@ -239,6 +241,13 @@ final class AskTest {
         checks.dueFloat("one of three", x.service(), 1f / 3f);
         x.hang(3);
         checks.dueFloat("one hung up is of no account", x.service(), 1f / 3f);
+        ExchangeControl y = Checks.at(30, "exchange 4 3;work 1;line 1;line 2;line 3;line 4;group a 1 0;route 9 1 a;"
+            + "call 1 9 1 1;call 1 9 1 2;call 2 2 1 10;call 3 9 40 15;call 4 9 1 15;call 2 5 1 15;");
+        checks.due("busy", y.state(14), 1);
+        checks.due("blocked", y.state(15), 1);
+        checks.due("given up", y.state(16), 1);
+        checks.due("refused", y.state(17), 1);
+        checks.dueFloat("one of five, and one talks", y.service(), 1f / 5f);
         checks.dueFloat("none of one", Checks.at(9, "exchange 1 1;line 1;call 1 2 1 1;").service(), 0);
     }
 

@@ -5,6 +5,7 @@ final class ForetellTest {
 
     public static void main(String[] args) {
         overIn();
+        overInOrder();
         foretold();
         bestGuard();
         checks.end();
@@ -32,6 +33,18 @@ final class ForetellTest {
         checks.dueThrow("overIn(-1)", IndexOutOfBoundsException.class, () -> z.overIn(-1));
     }
 
+    private static void overInOrder() {
+        ExchangeControl x = Checks.at(1, "exchange 1 1;timeout 3;line 1;line 2;line 3;call 1 5 1 2;call 2 5 1 1;"
+            + "call 3 5 1 1;");
+        // call 1 has the register from 1 to 4, call 2 to 7, and call 0, which comes behind it, to 10
+        for (int time = 1; time <= 3; time++) {
+            checks.due("call 0 at " + time, x.overIn(0), 10 - time);
+            checks.due("call 1 at " + time, x.overIn(1), 4 - time);
+            checks.due("call 2 at " + time, x.overIn(2), 7 - time);
+            x.pass(1);
+        }
+    }
+
     private static void foretold() {
         ExchangeControl x = Checks.fresh(ONE);
         long before = x.checksum();
@@ -42,6 +55,8 @@ final class ForetellTest {
         checks.due("one comes later", x.foretold(600, 0), 1);
         ExchangeControl talks = Checks.at(5, "exchange 1 1;line 11;line 12;call 11 12 3 1;");
         checks.due("the only call talks", talks.foretold(3, 6), 1);
+        talks.hang(0);
+        checks.due("it is hung up", talks.foretold(1, 11), 1);
         checks.due("nothing has changed", x.checksum(), before);
         checks.dueThrow("foretold(0, 0)", IllegalArgumentException.class, () -> x.foretold(0, 0));
         checks.dueThrow("foretold(601, 0)", IllegalArgumentException.class, () -> x.foretold(601, 0));
