@@ -1,9 +1,20 @@
+import java.util.List;
+
 /** Counts the answers that are not as due, and puts texts into an exchange. */
 final class Checks {
     private int wrong = 0;
 
     interface Asked {
         void run();
+    }
+
+    /** Makes the same exchange each time. */
+    interface Maker {
+        ExchangeControl made();
+    }
+
+    interface Call {
+        void on(ExchangeControl x);
     }
 
     void due(String what, long got, long want) {
@@ -34,6 +45,37 @@ final class Checks {
         System.out.println(what + " threw " + got + ", due is " + want.getSimpleName());
     }
 
+    /** A refused call throws what is due, and leaves the exchange like a twin that was not called. */
+    void refused(String what, Class<?> want, Maker maker, Call call) {
+        ExchangeControl x = maker.made();
+        dueThrow(what, want, () -> call.on(x));
+        alike("refused " + what, x, maker.made());
+    }
+
+    /** Two exchanges answer alike in all that can be asked; both are used up. */
+    void alike(String what, ExchangeControl x, ExchangeControl twin) {
+        List<String> got = Transcript.of(x);
+        List<String> want = Transcript.of(twin);
+        for (int k = 0; k < got.size() || k < want.size(); k++) {
+            String gotLine = k < got.size() ? got.get(k) : "nothing";
+            String wantLine = k < want.size() ? want.get(k) : "nothing";
+            if (!gotLine.equals(wantLine)) {
+                wrong++;
+                System.out.println(what + ": told " + gotLine + ", due is " + wantLine);
+                return;
+            }
+        }
+    }
+
+    /** A text that has its first error where the bar stands. */
+    void wrongText(int code, String marked) {
+        ExchangeControl x = new ExchangeControl();
+        int offset = marked.indexOf('|');
+        String text = marked.replace("|", "");
+        due(marked, loaded(x, text), code);
+        due("offset in " + marked, x.errorOffset(), offset);
+    }
+
     void end() {
         System.out.println(wrong == 0 ? "all answers are as due" : wrong + " answers are not as due");
         if (wrong != 0) {
@@ -53,6 +95,15 @@ final class Checks {
             filled = x.append(words[0], words[1], words[2], words[3], words[4]);
         }
         return filled;
+    }
+
+    /** A text many times over, each time with its number, from 0, in place of %d. */
+    static String times(int count, String format) {
+        StringBuilder text = new StringBuilder();
+        for (int k = 0; k < count; k++) {
+            text.append(String.format(format, k));
+        }
+        return text.toString();
     }
 
     static int loaded(ExchangeControl x, String text) {

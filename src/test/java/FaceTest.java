@@ -3,6 +3,7 @@ import java.lang.reflect.Field;
 import java.lang.reflect.Method;
 import java.lang.reflect.Modifier;
 import java.util.Arrays;
+import java.util.NoSuchElementException;
 import java.util.TreeSet;
 
 /** The class shows the document's face and nothing else. */
@@ -17,12 +18,12 @@ final class FaceTest {
         checks.due("public and final", ExchangeControl.class.getModifiers() & (Modifier.PUBLIC | Modifier.FINAL),
             Modifier.PUBLIC | Modifier.FINAL);
         same("fields", shownFields(), "NAME_ERROR OUT_OF_RANGE SYNTAX_ERROR TOO_MANY");
-        same("methods", shownMethods(), "int append(int,int,int,int,int)", "int bestGuard()", "int call(int,int)",
-            "int dial(int,int,int)", "int digit(int,int)", "int errorOffset()", "int foremost(boolean)",
-            "int foretold(int,int)", "int group(int,int)", "int hang(int)", "int line(int,int)", "int load(int)",
-            "int look(int,int)", "int marker(int,int)", "int overIn(int)", "int pass(int)", "int register(int,int)",
-            "int rule(int,int)", "int state(int)", "int undo()", "float service()", "float traffic(int)",
-            "long checksum()");
+        same("methods", shownMethods(), "int append(int,int,int,int,int)", "int load(int) A", "int errorOffset()",
+            "int state(int) A", "int line(int,int) I A", "int group(int,int) I A", "int register(int,int) I A",
+            "int marker(int,int) I A", "int call(int,int) I A", "int digit(int,int) I N", "int look(int,int) A",
+            "int foremost(boolean)", "int overIn(int) I", "int foretold(int,int) A", "int bestGuard()", "float service()",
+            "float traffic(int) I", "int dial(int,int,int) I A S", "int hang(int) I S", "int rule(int,int) A",
+            "int pass(int) A", "int undo()", "long checksum()");
         Constructor<?>[] constructors = ExchangeControl.class.getDeclaredConstructors();
         checks.due("constructors", constructors.length, 1);
         checks.due("parameters of the constructor", constructors[0].getParameterCount(), 0);
@@ -53,11 +54,20 @@ final class FaceTest {
         for (Method method : ExchangeControl.class.getDeclaredMethods()) {
             if (!Modifier.isPrivate(method.getModifiers())) {
                 String parameters = Arrays.toString(method.getParameterTypes());
-                shown.add(method.getReturnType() + " " + method.getName()
+                StringBuilder row = new StringBuilder(method.getReturnType() + " " + method.getName()
                     + parameters.replace("[", "(").replace("]", ")").replace(" ", ""));
+                for (Class<?> thrown : method.getExceptionTypes()) {
+                    row.append(' ').append(letterOf(thrown));
+                }
+                shown.add(row.toString());
             }
         }
         return shown;
+    }
+
+    private static String letterOf(Class<?> thrown) {
+        return thrown == IndexOutOfBoundsException.class ? "I" : thrown == IllegalArgumentException.class ? "A"
+            : thrown == IllegalStateException.class ? "S" : thrown == NoSuchElementException.class ? "N" : "?";
     }
 
     private static void noOtherBearsAName() {

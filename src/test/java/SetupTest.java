@@ -104,11 +104,7 @@ final class SetupTest {
 
     /** A text in which the first error is at the sign behind the bar. */
     private static void wrong(int code, String marked) {
-        ExchangeControl x = new ExchangeControl();
-        int offset = marked.indexOf('|');
-        String text = marked.replace("|", "");
-        checks.due(marked, Checks.loaded(x, text), code);
-        checks.due("offset in " + marked, x.errorOffset(), offset);
+        checks.wrongText(code, marked);
     }
 
     private static void syntaxErrors() {
@@ -215,11 +211,7 @@ final class SetupTest {
     }
 
     private static String times(int count, String format) {
-        StringBuilder text = new StringBuilder();
-        for (int k = 0; k < count; k++) {
-            text.append(String.format(format, k));
-        }
-        return text.toString();
+        return Checks.times(count, format);
     }
 
     private static void tooMany() {
