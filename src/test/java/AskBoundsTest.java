@@ -188,6 +188,18 @@ final class AskBoundsTest {
         }
         checks.due("talks longest", x.call(1, 2), 99);
         checks.due("comes latest", x.call(1, 3), 999);
+        for (int k : new int[] {0, 6, -1}) {
+            for (int call : outside(12)) {
+                checks.refused("digit(" + call + ", " + k + ")", IndexOutOfBoundsException.class, EveryState::made,
+                    y -> y.digit(call, k));
+            }
+            checks.refused("digit(0, " + k + ") of no calls", IndexOutOfBoundsException.class, ExchangeControl::new,
+                y -> y.digit(0, k));
+        }
+        checks.refused("digit(9, 2) of two", NoSuchElementException.class, EveryState::made, y -> y.digit(9, 2));
+        ExchangeControl full = FullHouse.made();
+        checks.due("the digit of the last of 40", full.digit(39, 0), 8);
+        checks.dueThrow("no call 40", IndexOutOfBoundsException.class, () -> full.digit(40, 0));
     }
 
     /** The first and the last of each thing, when there are as many as there may be. */
@@ -429,6 +441,24 @@ final class AskBoundsTest {
         for (int state = 0; state <= 5; state++) {
             x.hang(EveryState.CALL_IN[state]);
             checks.dueFloat("hung up in " + state, x.service(), 1f / 5f);
+        }
+        // beside one that ended well, one, two and three that came to the same other end
+        String setup = "exchange 4 3;timeout 1;work 1;line 1;line 2;line 3;group a 1 0;route 9 1 a;call 1 2 1 1;";
+        String[] ends = {"call 3 3 1 T;", "call 3 9 1 T;", "call 3 5 1 T;", "call 1 5 1 2;", "call 3 5 1 T;"};
+        int[] states = {7, 8, 9, 10, 11};
+        for (int end = 0; end < ends.length; end++) {
+            StringBuilder text = new StringBuilder(setup + "call 2 9 99 11;");
+            for (int count = 1; count <= 3; count++) {
+                text.append(ends[end].replace("T", "" + (20 + 10 * count)));
+                ExchangeControl y = Checks.fresh(text.toString());
+                for (int call = 2; states[end] == 11 && call < 2 + count; call++) {
+                    y.hang(call);
+                }
+                y.pass(60);
+                checks.due("in state " + states[end], y.state(7 + states[end]), count);
+                checks.due("one talks, one ended well", y.state(12) * 10 + y.state(13), 11);
+                checks.dueFloat(count + " in state " + states[end], y.service(), states[end] == 11 ? 1 : 1f / (1f + count));
+            }
         }
         // each of 12 lines calls a line that is free or busy, one at a time
         for (int well = 0; well <= 12; well++) {

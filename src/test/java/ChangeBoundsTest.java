@@ -1,3 +1,6 @@
+import java.util.ArrayList;
+import java.util.HashSet;
+import java.util.List;
 import java.util.NoSuchElementException;
 
 /** The bounds of what changes an exchange: promises 19 to 23, and which changes can be undone. */
@@ -22,6 +25,7 @@ final class ChangeBoundsTest {
         undoDepth();
         finalChanges();
         undoKinds();
+        undoSteps();
         undoFullHouse();
         loads();
         manyCalls();
@@ -393,6 +397,44 @@ final class ChangeBoundsTest {
                 }
             }
         }
+    }
+
+    /** Tick by tick, eight ticks at a time are taken back and pass once more; all that is told comes back. */
+    private static void undoSteps() {
+        String text = "exchange 2 2;timeout 6;work 3;line 1;line 2;line 3;line 4;line 5;line 6;group a 1 0;group b 3 1;"
+            + "route 9 2 a b;call 6 99 50 1;call 5 99 9 1;call 4 99 12 2;call 3 8 1 2;call 2 8 1 1;call 1 2 7 3;call 2 99 9 22;"
+            + "call 6 1 1 3;call 3 99 9 30;call 5 3 4 31;call 4 5 5 36;";
+        List<List<String>> due = new ArrayList<>();
+        for (int time = 0; time <= 64; time++) {
+            due.add(Transcript.of(time == 0 ? Checks.fresh(text) : stepped(text, time)));
+        }
+        for (int start = 0; start <= 56; start++) {
+            for (int back = 1; back <= 8; back++) {
+                ExchangeControl x = stepped(text, start + 8);
+                for (int k = 1; k <= back; k++) {
+                    checks.due("undo", x.undo(), 8 - k);
+                }
+                ExchangeControl y = stepped(text, start + 8 - back);
+                checks.due("as at " + (start + 8 - back), x.checksum(), y.checksum());
+                checks.due("waits for a register", x.foremost(false), y.foremost(false));
+                checks.due("waits for a marker", x.foremost(true), y.foremost(true));
+                for (int state = 0; state <= 11; state++) {
+                    checks.due("foretold", x.foretold(20, state), y.foretold(20, state));
+                }
+                x.pass(5);
+                y.pass(5);
+                checks.due("and goes on as from there", x.checksum(), y.checksum());
+            }
+        }
+        checks.due("each time tells something else", new HashSet<>(due).size(), due.size());
+    }
+
+    private static ExchangeControl stepped(String text, int ticks) {
+        ExchangeControl x = Checks.fresh(text);
+        for (int tick = 0; tick < ticks; tick++) {
+            x.pass(1);
+        }
+        return x;
     }
 
     /** All data come back, of as many things as there may be. */

@@ -11,6 +11,8 @@ final class ForetellBoundsTest {
         foretoldBounds();
         foretoldHorizon();
         foretoldAsItPasses();
+        foretoldFullHouse();
+        foretoldQueues();
         foretellingChangesNothing();
         guardForLines();
         guardHorizon();
@@ -131,6 +133,50 @@ final class ForetellBoundsTest {
             checks.due("each call is in one state", all, 12);
         }
         checks.due("nothing has passed", x.checksum(), EveryState.made().checksum());
+    }
+
+    /** With 40 calls that are all open, and when all are over. */
+    private static void foretoldFullHouse() {
+        ExchangeControl x = FullHouse.made();
+        checks.due("all are to come", x.state(7), 40);
+        checks.due("one of each of two lines comes in", x.foretold(1, 2), 2);
+        checks.due("38 are refused", x.foretold(1, 10), 38);
+        checks.due("none is to come", x.foretold(1, 0), 0);
+        checks.due("one ends well", x.foretold(600, 6), 1);
+        checks.due("the other finds the line busy", x.foretold(600, 7), 1);
+        checks.due("any guard does for two", x.bestGuard(), 1);
+        x.pass(10);
+        checks.due("all are over", x.foretold(1, 10) * 100 + x.foretold(600, 6) * 10 + x.foretold(300, 7), 3811);
+    }
+
+    /** Those that wait are foretold in their order, before those that come later, also by an object's first foretelling. */
+    private static void foretoldQueues() {
+        String text = "exchange 1 1;timeout 3;line 1;line 2;line 3;line 4;line 5;call 1 9 1 5;call 2 9 1 1;call 3 9 1 3;"
+            + "call 4 9 1 2;call 5 9 1 1;";
+        // they have the register one behind the other, for 3 ticks each: calls 1, 4, 3, 2, 0
+        int[] over = {16, 4, 13, 10, 7};
+        for (int time = 0; time <= 16; time++) {
+            for (int call = 0; call < 5; call++) {
+                ExchangeControl x = Checks.fresh(text);
+                if (time > 0) {
+                    x.pass(time);
+                }
+                checks.due("call " + call + " at " + time, x.overIn(call), Math.max(over[call] - time, 0));
+            }
+        }
+        // the same with a marker that works for 3 ticks
+        String marked = "exchange 4 1;work 3;line 1;line 22;line 333;line 4;line 5;line 6;group a 8 0;route 7 3 a;"
+            + "call 4 789 1 1;call 5 1 1 1;call 6 22 1 1;";
+        int[] ends = {12, 6, 9};
+        for (int time = 0; time <= 12; time++) {
+            for (int call = 0; call < 3; call++) {
+                ExchangeControl x = Checks.fresh(marked);
+                if (time > 0) {
+                    x.pass(time);
+                }
+                checks.due("marked call " + call + " at " + time, x.overIn(call), Math.max(ends[call] - time, 0));
+            }
+        }
     }
 
     private static void foretellingChangesNothing() {

@@ -16,6 +16,7 @@ final class TokenBoundsTest {
         lengthOfLoad();
         loadEmpties();
         errorLeavesData();
+        noOlderData();
         errorOffset();
         everySign();
         spaces();
@@ -144,6 +145,35 @@ final class TokenBoundsTest {
             checks.due("before the first load all is as by exchange 1 1;", y.checksum(), new ExchangeControl().checksum());
             checks.due("nothing to undo", y.undo(), -1);
         }
+    }
+
+    /** What an earlier text told, whether it had an error or not, is not known to a later one, nor told already. */
+    private static void noOlderData() {
+        for (String error : new String[] {"", "?"}) {
+            ExchangeControl x = new ExchangeControl();
+            Checks.loaded(x, FullHouse.TEXT + Checks.times(38, "call0 8 1 1;") + error);
+            checks.due("a line is not known", Checks.loaded(x, "exchange 1 1;call 0 8 1 1;"), NAME);
+            checks.due("nor a group", Checks.loaded(x, "exchange 1 1;route 0 6 e;"), NAME);
+            checks.due("a line can be told", Checks.loaded(x, "exchange 1 1;line 5;line 0;"), 0);
+            checks.due("two lines", x.state(2), 2);
+            checks.due("as many as there may be", Checks.loaded(x, FullHouse.TEXT + Checks.times(38, "call0 8 1 1;")), 38);
+            checks.due("few", Checks.loaded(x, "exchange 1 1;line 7;group e 1 0;route 7 2 e;"), 0);
+            checks.alike("as for the first time", withOlderFinal(x), withOlderFinal(Checks.fresh("exchange 1 1;line 7;group e 1 0;route 7 2 e;")));
+            for (String row : new String[] {"0", "1", "6", "00", "01"}) {
+                Checks.put(x, row);
+                checks.due("no line " + row, x.look(row.length(), 0), -1);
+                checks.due("no route " + row, x.look(row.length(), 1), -1);
+                x.load(0);
+            }
+        }
+    }
+
+    /** Makes all its changes final, so that what is told now is all that can be told. */
+    private static ExchangeControl withOlderFinal(ExchangeControl x) {
+        for (int times = 0; times < 8; times++) {
+            x.rule(20, 5);
+        }
+        return x;
     }
 
     private static void errorOffset() {
